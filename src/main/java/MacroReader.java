@@ -129,8 +129,9 @@ public final class MacroReader {
     private int readLine() {
         int at = position;
         position++;
-        Part outermost = nest.outermostLines();
-        toldLine = outermost == null ? at + 1 : outermost.line;
+        // What is opened in lines takes over the line that these are told by, so this is the outermost one's.
+        Part lines = nest.innermostLines();
+        toldLine = lines == null ? at + 1 : lines.line;
         linesRead++;
         if (linesRead > MOST_LINES_READ || !fill(at)) {
             return tell(SIZE_FAULT);
@@ -1011,16 +1012,6 @@ public final class MacroReader {
 
         Part innermostLines() {
             for (int i = size - 1; i >= 0; i--) {
-                Part part = at(i);
-                if (part != null && part.hasLines()) {
-                    return part;
-                }
-            }
-            return null;
-        }
-
-        Part outermostLines() {
-            for (int i = 0; i < size; i++) {
                 Part part = at(i);
                 if (part != null && part.hasLines()) {
                     return part;

@@ -307,7 +307,7 @@ public final class MacroReaderPromises {
     private static void badTokens() {
         String[] lines = {"?", "@", "#", "!", "=", "{", "}", "`", "\\", "<", ">", "< <", "<<<", ">>>", "<>", "a\\b",
             times("n", 64), "1a", "1_", "1.", "1.5", "0x", "0b", "0X1", "0B1", "0b2", "0b12", "0xg", "0x1g", "0x1.", "08a",
-            "18446744073709551616", "20000000000000000000", "99999999999999999999999", "0x10000000000000000",
+            "18446744073709551616", "20000000000000000000", "184467440737095516150", "100000000000000000000", "99999999999999999999999", "0x10000000000000000",
             "36893488147419103232", "0b1" + times("0", 64), "''", "'''", "'", "'a", "'ab'", "'\\'", "'\\", "'a'b", "'a'1", "'a'_",
             "'a'.", "'\t'", "'\\\t'", "\"", "\"a", "\"\\\"", "\"a\tb\"", "\"\\\t\"", "\"\u007f\"", "'\u007f'", "\"a\"\"", "a ?"};
         for (String line : lines) {
@@ -371,6 +371,16 @@ public final class MacroReaderPromises {
         reads("rept 0\na\n?\nendr\nb", "b @5 #0", "end");
         reads("rept 4096\nendr\na", "a @3 #0", "end");
         reads("rept 2\nrept 2\na\nendr\nb\nendr", "a @1 #2", "a @1 #2", "b @1 #1", "a @1 #2", "a @1 #2", "b @1 #1", "end");
+        turns("'\\t'", 9);
+        turns("'\\n'", 10);
+        turns("'\\0'", 0);
+        turns("'!'", 33);
+        turns("'\\r'", 114);
+        turns("'\\\\'", 92);
+        turns("0x0aF", 175);
+        turns("0b1101", 13);
+        turns("0012", 12);
+        turns("4096", 4096);
         reads("rept '\\t'\nendr ? 1\nrept 0b1\nx\n endr", "x @3 #1", "end");
         reads("rept 4096\nrept 4096\nendr\nendr\na", "a @5 #0", "end");
         reads("rept 4097\nendr", "kind 7 @1");
@@ -387,6 +397,12 @@ public final class MacroReaderPromises {
         reads("rept 2\nmacro m\nendm\nendr", "kind 6 @1");
         reads("rept 1\nif 1\nmacro m\nendm\nendif\nendr", "kind 6 @1");
         reads("rept 0\nmacro m\nendm\nendr\nmacro m\na\nendm\nm", "a @8 #1", "end");
+    }
+
+    private static void turns(String number, int want) {
+        MacroReader reader = typed(new MacroReader(), "rept " + number + "\nx\nendr");
+        reader.begin();
+        same("turns of " + number, want, answers(reader, 5000).size() - 1);
     }
 
     private static void macroHeadings() {
@@ -535,6 +551,11 @@ public final class MacroReaderPromises {
         reads(start + times(skipped, 13) + "if 0\n?\nelse\na\nendif", "a @64 #1", "kind 5 @65");
         reads("rept 4096\nrept 4096\nif 0\nendif\nendr\nendr", "kind 5 @1");
         reads("macro m\nrept 4096\nm\nendr\nendm\nm", "kind 6 @6");
+        MacroReader reader = new MacroReader();
+        for (int i = 0; i < 3; i++) {
+            typed(reader, start + times(skipped, 15)).begin();
+            same("lines are counted anew", List.of("end"), answers(reader, 2));
+        }
     }
 
     private static void orderOfFaults() {
