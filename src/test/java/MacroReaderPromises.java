@@ -1,13 +1,7 @@
-import java.nio.charset.StandardCharsets;
-import java.util.ArrayList;
-import java.util.Arrays;
 import java.util.List;
 
 /** The promises of the document, one method for each and for each of the terms that they rest on. */
-public final class MacroReaderPromises {
-    private static int wrong = 0;
-    private static int checks = 0;
-
+public final class MacroReaderPromises extends Checks {
     public static void main(String[] args) {
         promise1NewObject();
         promise2Type();
@@ -31,84 +25,7 @@ public final class MacroReaderPromises {
         limits();
         orderOfFaults();
         manyObjects();
-        System.out.println(wrong == 0 ? checks + " checks hold" : wrong + " of " + checks + " checks fail");
-        if (wrong != 0) {
-            System.exit(1);
-        }
-    }
-
-    // How a check is said: a source, then "text @line #depth" for each plain line, then "end" or "kind K @line".
-
-    private static void reads(String source, String... want) {
-        MacroReader reader = typed(new MacroReader(), source);
-        reader.begin();
-        same(source, Arrays.asList(want), answers(reader, want.length + 2));
-    }
-
-    private static List<String> answers(MacroReader reader, int most) {
-        List<String> answers = new ArrayList<>();
-        for (int i = 0; i < most; i++) {
-            int length;
-            try {
-                length = reader.next();
-            } catch (IllegalArgumentException e) {
-                answers.add("kind " + reader.fault() + " @" + reader.line());
-                return answers;
-            }
-            if (length < 0) {
-                answers.add("end");
-                return answers;
-            }
-            answers.add(latest(reader, length) + " @" + reader.line() + " #" + reader.depth());
-        }
-        return answers;
-    }
-
-    private static String latest(MacroReader reader, int length) {
-        StringBuilder text = new StringBuilder();
-        for (int i = 0; i < length; i++) {
-            text.append((char) reader.octet(i));
-        }
-        return text.toString();
-    }
-
-    private static MacroReader typed(MacroReader reader, String source) {
-        byte[] bytes = source.getBytes(StandardCharsets.ISO_8859_1);
-        for (int from = 0; from < bytes.length; from += 8) {
-            int n = Math.min(8, bytes.length - from);
-            long word = 0;
-            for (int i = 0; i < n; i++) {
-                word = word << 8 | bytes[from + i] & 255;
-            }
-            if (!reader.type(word, n)) {
-                same("typing", "true", "false");
-            }
-        }
-        return reader;
-    }
-
-    private static void same(String what, Object want, Object got) {
-        checks++;
-        if (!want.equals(got)) {
-            wrong++;
-            System.out.println("[" + what.replace("\n", "|") + "] answered " + got + ", due is " + want);
-        }
-    }
-
-    private static String throwsAtNext(MacroReader reader) {
-        try {
-            return "" + reader.next();
-        } catch (IllegalArgumentException e) {
-            return e.getClass().getSimpleName();
-        }
-    }
-
-    private static String state(MacroReader reader) {
-        return reader.octet(0) + " " + reader.line() + " " + reader.fault() + " " + reader.depth();
-    }
-
-    private static String times(String part, int n) {
-        return part.repeat(n);
+        finish();
     }
 
     private static void promise1NewObject() {
