@@ -212,7 +212,8 @@ public final class MacroReaderBoundaries extends Checks {
         turns("0b0", 0);
         turns("0b1", 1);
         turns("0b10", 2);
-        for (String bad : new String[] {"0x", "0xg", "0xG", "0x@", "0x`", "0X1", "0b", "0b2", "0b12", "0B1", "0a", "9a", "0xfg", "0o7"}) {
+        for (String bad : new String[] {"0x", "0xg", "0xG", "0x@", "0x`", "0X1", "0b", "0b2", "0b12", "0B1", "0a", "9a", "0xfg", "0o7",
+            "1x1", "9x0", "1b1", "2b0", "00x1", "00b1"}) {
             reads("rept " + bad + "\nendr", "kind 1 @1");
         }
     }
@@ -330,6 +331,12 @@ public final class MacroReaderBoundaries extends Checks {
         for (String word : WORDS) {
             reads("x " + word, "x " + word + " @1 #0", "end");
             reads(word + "_", word + "_ @1 #0", "end");
+            for (int i = 0; i < word.length(); i++) {
+                String other = word.substring(0, i) + "q" + word.substring(i + 1);
+                reads(other, other + " @1 #0", "end");
+                String fewer = word.substring(0, i) + word.substring(i + 1);
+                reads(fewer, fewer + " @1 #0", "end");
+            }
             reads(word.toUpperCase(), word.toUpperCase() + " @1 #0", "end");
             reads("\"" + word + "\"", "\"" + word + "\" @1 #0", "end");
             reads(": " + word, ": " + word + " @1 #0", "end");
@@ -639,6 +646,9 @@ public final class MacroReaderBoundaries extends Checks {
                 "end");
         reads("macro m a\n\\a \\a\nendm\nm \"" + times("y", 510) + "\"", "kind 5 @4");
         reads("macro m a\n;\\a\\a\nendm\nm \"" + times("y", 510) + "\"", "kind 5 @4");
+        // The last byte is a \ that stays.
+        reads("macro m a\n;\\a\\\nendm\nm \"" + times("y", 1020) + "\"", ";\"" + times("y", 1020) + "\"\\ @4 #1", "end");
+        reads("macro m a\n;\\a\\\nendm\nm\"" + times("y", 1021) + "\"", "kind 5 @4");
     }
 
     private static void lineBytesGoneThrough() {
@@ -837,6 +847,9 @@ public final class MacroReaderBoundaries extends Checks {
         reads("macro m\nx\nrept 0\ny\nendm\nm", "x @6 #1", "kind 6 @6");
         reads("macro m\nx\nrept 0\ny\nendr\nendm\nm", "x @7 #1", "end");
         reads("macro m\nif 1\nif 1\nendif\nx\nendm\nm", "kind 6 @7");
+        // The rept that is put in has no end of its own: the endr that stands behind is the outer one's.
+        reads("macro m a\nrept 1\n\\a\nx\nendr\nendm\nm rept 1", "kind 6 @7");
+        reads("macro m a\nrept 1\n\\a\nx\nendr\nendm\nm y", "y @7 #2", "x @7 #2", "end");
         reads("rept 1\nrept 1\nif 1\nendr\nendif\nendr", "kind 6 @1");
         reads("rept 1\nrept 1\nif 1\nendif\nendr\nx\nendr", "x @1 #1", "end");
         reads("macro m a, b\nif 1\nendif\\a\n\\b\nendm\nm x, else", "endifx @6 #2", "kind 6 @6");
